@@ -62,42 +62,11 @@ public final class SteerBench {
     }
 
     public int series(int first, int second) {
-        Steps one = machineAt(first);
-        Steps two = machineAt(second);
-        if (one == null || two == null) {
-            return BAD;
-        }
-        if (!canBeJoined(one, two)) {
-            return STATE;
-        }
-        if (isFull() || one.states + two.states > MOST_STATES) {
-            return FULL;
-        }
-        Loop loop = joined(one, two, one.d[0], two.d[0]);
-        for (int i = 0; i < two.states; i++) {
-            for (int k = 0; k < one.states; k++) {
-                loop.a[MOST_STATES * (one.states + i) + k] = one.unit * two.b[i] * one.c[k];
-            }
-        }
-        loop.d[0] = one.d[0] * two.d[0];
-        return keptIfSmall(loop);
+        return joined(first, second, true);
     }
 
     public int side(int first, int second) {
-        Steps one = machineAt(first);
-        Steps two = machineAt(second);
-        if (one == null || two == null) {
-            return BAD;
-        }
-        if (!canBeJoined(one, two)) {
-            return STATE;
-        }
-        if (isFull() || one.states + two.states > MOST_STATES) {
-            return FULL;
-        }
-        Loop loop = joined(one, two, 1, 1);
-        loop.d[0] = one.d[0] + two.d[0];
-        return keptIfSmall(loop);
+        return joined(first, second, false);
     }
 
     public int back(int machine, int sign) {
@@ -521,29 +490,48 @@ public final class SteerBench {
         return kept(loop);
     }
 
-    private static boolean canBeJoined(Steps one, Steps two) {
-        return !(one instanceof Flow) && !(two instanceof Flow) && one.unit == two.unit;
+    private int joined(int first, int second, boolean isSeries) {
+        Steps one = machineAt(first);
+        Steps two = machineAt(second);
+        if (one == null || two == null) {
+            return BAD;
+        }
+        if (one instanceof Flow || two instanceof Flow || one.unit != two.unit) {
+            return STATE;
+        }
+        int n = one.states + two.states;
+        if (isFull() || n > MOST_STATES) {
+            return FULL;
+        }
+        Loop loop = new Loop(machineCount, n, one.unit);
+        putBlock(loop, 0, one, 1, isSeries ? two.d[0] : 1);
+        putBlock(loop, one.states, two, isSeries ? one.d[0] : 1, 1);
+        if (isSeries) {
+            putCrossing(loop, one, two);
+        }
+        loop.d[0] = isSeries ? one.d[0] * two.d[0] : one.d[0] + two.d[0];
+        return keptIfSmall(loop);
     }
 
-    /** What series() and side() have in common: both call it only if the STATES of the two fit. */
-    private Loop joined(Steps one, Steps two, int inputOfTwo, int outputOfOne) {
-        Loop loop = new Loop(machineCount, Math.min(one.states + two.states, MOST_STATES), one.unit);
-        for (int i = 0; i < one.states; i++) {
-            for (int k = 0; k < one.states; k++) {
-                loop.a[MOST_STATES * i + k] = one.a[MOST_STATES * i + k];
+    /** A MACHINE's own numbers come to a LOOP from its STATE from on; factors for what comes in and goes out. */
+    private static void putBlock(Loop loop, int from, Steps m, int in, int out) {
+        int n = Math.min(m.states, MOST_STATES - from);
+        for (int i = 0; i < n; i++) {
+            for (int k = 0; k < n; k++) {
+                loop.a[MOST_STATES * (from + i) + from + k] = m.a[MOST_STATES * i + k];
             }
-            loop.b[i] = one.b[i];
-            loop.c[i] = one.c[i] * outputOfOne;
+            loop.b[from + i] = m.b[i] * in;
+            loop.c[from + i] = m.c[i] * out;
         }
+    }
+
+    /** What the first one's STATES do to the second one's; expects that the STATES of both fit. */
+    private static void putCrossing(Loop loop, Steps one, Steps two) {
         for (int i = one.states; i < loop.states; i++) {
-            int j = i - one.states;
-            for (int k = one.states; k < loop.states; k++) {
-                loop.a[MOST_STATES * i + k] = two.a[MOST_STATES * j + k - one.states];
+            for (int k = 0; k < one.states; k++) {
+                loop.a[MOST_STATES * i + k] = one.unit * two.b[i - one.states] * one.c[k];
             }
-            loop.b[i] = two.b[j] * inputOfTwo;
-            loop.c[i] = two.c[j];
         }
-        return loop;
     }
 
     private static void fillRow(Part part, int row, Steps m, int i, int states) {
@@ -647,12 +635,10 @@ public final class SteerBench {
             super(number, states, unit);
         }
 
-        @Override
         int kind() {
             return 1;
         }
 
-        @Override
         int goes(int x, Trace trace) {
             if (trace.ran < MOST_KEPT) {
                 trace.kept[trace.ran] = FLOW_GOES;
@@ -667,12 +653,10 @@ public final class SteerBench {
             super(number, states, unit);
         }
 
-        @Override
         int kind() {
             return 2;
         }
 
-        @Override
         int leads(int x, Trace trace) {
             if (trace.ran < MOST_KEPT) {
                 trace.kept[trace.ran] = LOOP_LEADS;
@@ -681,7 +665,6 @@ public final class SteerBench {
             return super.leads(x, trace) * 3;
         }
 
-        @Override
         int shows(int x, Trace trace) {
             if (trace.ran < MOST_KEPT) {
                 trace.kept[trace.ran] = LOOP_SHOWS;
@@ -696,12 +679,10 @@ public final class SteerBench {
             super(number, states, unit);
         }
 
-        @Override
         int kind() {
             return 3;
         }
 
-        @Override
         int goes(int x, Trace trace) {
             if (trace.ran < MOST_KEPT) {
                 trace.kept[trace.ran] = PART_GOES;
@@ -710,7 +691,6 @@ public final class SteerBench {
             return super.goes(x, trace) ^ number;
         }
 
-        @Override
         int shows(int x, Trace trace) {
             if (trace.ran < MOST_KEPT) {
                 trace.kept[trace.ran] = PART_SHOWS;
@@ -818,7 +798,7 @@ public final class SteerBench {
         private final long[][] columns = new long[MOST_PULSE][MOST_STATES];
         /** c, c a, c a a */
         private final long[][] rows = new long[MOST_STATES][MOST_STATES];
-        private final long[] own = new long[MOST_STATES + 1];
+        final long[] own = new long[MOST_STATES + 1];
         private final long[][] some = new long[MOST_STATES + 1][MOST_STATES];
         private final long[] scaled = new long[MOST_STATES + 1];
         private final long[] lower = new long[MOST_STATES + 1];
