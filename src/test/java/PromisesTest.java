@@ -367,6 +367,22 @@ public final class PromisesTest {
         made(x, 0, 3, 1, 0, 1, 0, 0, 0, 1, 0, 0, 0, 0, 0, 1, 1, 0, 0, 0);
         told = new int[] {0, 3, 1, 1, 3, 3, 3, 0};
         for (int what = 0; what < 8; what++) due("machineTold(4, " + what + ")", x.machineTold(4, what), told[what]);
+        // b and a b free of one another in two of three places alone
+        int[][] moves = {{0, 1}, {0, 2}, {1, 2}, {1, 0}, {2, 0}, {2, 1}};
+        for (int[] move : moves) {
+            SteerBench y = new SteerBench();
+            y.machine(0, 3, 1);
+            y.set(0, 1, move[0], 0, 2);
+            y.set(0, 0, move[1], move[0], 3);
+            y.set(0, 2, move[1], 0, -1);
+            due("REACHED " + move[0] + move[1], y.machineTold(0, 4), 2);
+            due("SEEN " + move[0] + move[1], y.machineTold(0, 5), 2);
+            due("LEAST " + move[0] + move[1], y.machineTold(0, 6), 2);
+        }
+        // b and a b are one another's multiples, with no 0 among them
+        made(x, 0, 3, 1, 1, 1, 0, 1, 1, 0, 1, 0, 1, 1, 1, 1, 0, 0, 0, 0);
+        due("REACHED", x.machineTold(5, 4), 1);
+        due("SEEN", x.machineTold(5, 5), 0);
     }
 
     /** On the circle, on 0, just within, with roots that are no real numbers. */
@@ -473,6 +489,13 @@ public final class PromisesTest {
         // v -3 .. -3
         dueTwo("run 0 of 0", x.run(0, 0, 0, 0), x.run(0, 0, 0, 1), -3, 1);
         dueTwo("run 5 of 0", x.run(0, 5, 0, 0), x.run(0, 5, 0, 1), -117, 8);
+        SteerBench y = new SteerBench();
+        made(y, 0, 2, 2, 1, -1, 2, 3, 1, 2, 3, -1, 2);
+        // v 3, -1, 2, 1: x 0 0, 3 6, -5/2 10, -17/4 33/2
+        int four = 6 + 7 * 2 + 49 * 5 + 343 * 4;
+        dueTwo("y(1)", y.run(0, 1, 20, 0), y.run(0, 1, 20, 1), 1, 1);
+        dueTwo("y(2)", y.run(0, 2, four - 1372, 0), y.run(0, 2, four - 1372, 1), -27, 2);
+        dueTwo("y(3)", y.run(0, 3, four, 0), y.run(0, 3, four, 1), -109, 4);
         int limit = 7;
         for (int t = 0; t <= 5; t++) {
             due("inputs at t " + t, x.run(0, t, limit - 1, 1) == NO ? 1 : 0, 0);
@@ -517,6 +540,9 @@ public final class PromisesTest {
         y.machine(0, 0, 1);
         y.machine(0, 3, 4);
         due("nothing comes out of both", y.like(0, 1), 1);
+        made(y, 0, 1, 1, 0, 1, 1, 0);
+        due("pulse 1 alone differs", y.like(0, 2), 0);
+        due("pulse 1 alone differs", y.like(2, 1), 0);
     }
 
     private static void gain() {
@@ -541,6 +567,15 @@ public final class PromisesTest {
         dueTwo("k(0)", x.gain(3, 0, 0, 0, 0, 0), x.gain(3, 0, 0, 0, 0, 1), 1, 2);
         dueTwo("k(1)", x.gain(3, 0, 0, 0, 1, 0), x.gain(3, 0, 0, 0, 1, 1), -8, 1);
         dueTwo("k(2)", x.gain(3, 0, 0, 0, 2, 0), x.gain(3, 0, 0, 0, 2, 1), 27, 2);
+        SteerBench y = new SteerBench();
+        made(y, 0, 2, 2, 1, 2, 3, -1, 2, 1, 0, 0, 0);
+        // less 4 k(0) 4 k(1) / 2 k(0) 2 k(1): the sum of roots 5, their product 3
+        dueTwo("k(0)", y.gain(0, 3, -5, 0, 0, 0), y.gain(0, 3, -5, 0, 0, 1), -35, 12);
+        dueTwo("k(1)", y.gain(0, 3, -5, 0, 1, 0), y.gain(0, 3, -5, 0, 1, 1), 10, 3);
+        made(y, 0, 3, 4, 1, 2, -1, 3, -1, 2, -2, 1, 3, 2, 1, -3, 0, 0, 0, 0);
+        long[] gains = {-13, -37, -131};
+        for (int i = 0; i < 3; i++)
+            dueTwo("k(" + i + ")", y.gain(1, 7, -3, 2, i, 0), y.gain(1, 7, -3, 2, i, 1), gains[i], 264);
         made(x, 0, 2, 1, 1, 0, 0, 2, 1, 0, 1, 1, 0);
         due("REACHED is 1", x.gain(4, 0, 0, 0, 0, 0), NO);
         x.machine(0, 0, 1);
@@ -566,6 +601,7 @@ public final class PromisesTest {
         due("without input, 1", x.soonest(2, 1, 0, 0), 1);
         made(x, 0, 1, 1, 2, 0, 0, 0);
         due("it never rests", x.soonest(3, 9, FAR, DEEP), NONE);
+        due("it rests, others do not matter", x.soonest(3, 0, FAR, DEEP), 0);
         x.machine(0, 0, 4);
         due("without STATES", x.soonest(4, FAR, DEEP, 10), 0);
         made(x, 1, 1, 1, 0, 1, 0, 0);
@@ -595,6 +631,9 @@ public final class PromisesTest {
         dueTwo("P(0,1)", x.energy(4, 0, 1, 0), x.energy(4, 0, 1, 1), 1, 4);
         dueTwo("P(1,0)", x.energy(4, 1, 0, 0), x.energy(4, 1, 0, 1), 1, 4);
         dueTwo("P(1,1)", x.energy(4, 1, 1, 0), x.energy(4, 1, 1, 1), 1, 2);
+        dueEnergy(0, 4, new int[] {1, 2, 3, -1}, new long[] {416, 207, -16, 207, 112, 69});
+        dueEnergy(1, 2, new int[] {-2, 1, -3, -1}, new long[] {1, 1, -1, 3, 2, 3});
+        dueEnergy(0, 2, new int[] {3, 1, 1, -2}, new long[] {-4, 5, 4, 5, -24, 5});
         x.machine(0, 0, 1);
         x.machine(0, 3, 1);
         made(x, 0, 1, 2, -2, 0, 0, 0);
@@ -610,6 +649,15 @@ public final class PromisesTest {
         int[][] bad = {{3, 2, 0, 0}, {3, 0, 2, 0}, {3, -1, 0, 0}, {3, 0, -1, 0}, {3, 2, -1, 0}, {0, 1, 0, 0}, {0, 0, 1, 0},
             {3, 0, 0, 2}, {3, 0, 0, -1}, {11, 0, 0, 0}, {-1, 0, 0, 0}, {3, FAR, FAR, 0}};
         for (int[] b : bad) due("energy", x.energy(b[0], b[1], b[2], b[3]), NO);
+    }
+
+    private static void dueEnergy(int kind, int unit, int[] a, long[] p) {
+        SteerBench x = new SteerBench();
+        x.machine(kind, 2, unit);
+        for (int i = 0; i < 4; i++) x.set(0, 0, i / 2, i % 2, a[i]);
+        for (int i = 0; i < 2; i++)
+            for (int k = 0; k < 2; k++)
+                dueTwo("P(" + i + "," + k + ")", x.energy(0, i, k, 0), x.energy(0, i, k, 1), p[2 * (i + k)], p[2 * (i + k) + 1]);
     }
 
     private static SteerBench written() {
@@ -721,6 +769,17 @@ public final class PromisesTest {
         dueTwo("P(0,0) is 0", x.row(5), x.row(6), 0, 1);
         dueTwo("P(0,1) is 1 by 2", x.row(7), x.row(8), 1, 2);
         due("P(0,0) is 0", x.check(8), STATE);
+        // P 1/2 -3/4 1
+        made(x, 0, 2, 1, -3, -3, -2, -3, 0, 0, 0, 0, 0);
+        x.write(9);
+        due("P(0,0) and P(1,1) above 0, P(0,1) too great", x.check(9), STATE);
+        // P 7/6 11/6 5/3
+        made(x, 1, 2, 1, -2, -3, 1, 3, 0, 0, 0, 0, 0);
+        x.write(10);
+        due("of a FLOW", x.check(10), STATE);
+        made(x, 0, 2, 4, 0, 0, 0, 0, 0, 0, 0, 0, 0);
+        x.write(11);
+        due("P is 1 0 1", x.check(11), NONE);
     }
 
     private static SteerBench actors() {
@@ -748,6 +807,7 @@ public final class PromisesTest {
         // of 4: leads (10 - 3) 3, goes of 5: 12
         due("LOOP shows", x.act(3, 2, 5), 21 ^ 12);
         due("PART goes", x.act(4, 0, 5), 11 ^ 4);
+        due("PART goes", x.act(4, 0, 6), 9);
         due("PART leads", x.act(4, 1, 5), (15 - 4) * 3);
         // leads of 5: 33; of 4: goes 9 ^ 4 = 13, leads 27, goes of 5: 15
         due("PART shows", x.act(4, 2, 5), 33 + (27 ^ 15));
