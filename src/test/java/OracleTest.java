@@ -1,13 +1,15 @@
 import java.util.Random;
 
-/** Runs of drawn calls on a SteerBench and on the Oracle: every answer must be the same. */
+/** Runs of drawn calls on a bench and on the Oracle: every answer must be the same. */
 public final class OracleTest {
-    private static final int RUNS = 250, CALLS = 512;
+    private static final int RUNS = 4000, LIMIT_RUNS = 1500;
+    /** More calls than any one step makes: a step begins only if there is room for it. */
+    private static final int STEP = 100;
     private static int wrong = 0;
     private static final StringBuilder log = new StringBuilder();
 
     private final Random random;
-    private final SteerBench bench = new SteerBench();
+    private final Bench bench = new Bench();
     private final Oracle oracle = new Oracle();
 
     private OracleTest(long seed) {
@@ -18,10 +20,11 @@ public final class OracleTest {
         for (int run = 0; run < RUNS && wrong == 0; run++) {
             OracleTest test = new OracleTest(run);
             log.setLength(0);
-            for (int call = 0; call < CALLS && wrong == 0; call++) test.step();
+            while (test.hasRoom(STEP) && wrong == 0) test.step();
             if (wrong != 0) System.out.println("run " + run + ":\n" + log);
         }
         limits();
+        rings();
         System.out.println(wrong == 0 ? "bench and oracle agree" : "bench and oracle differ");
         if (wrong != 0) System.exit(1);
     }
@@ -32,6 +35,10 @@ public final class OracleTest {
             wrong++;
             log.append("   due is ").append(want).append('\n');
         }
+    }
+
+    private boolean hasRoom(int calls) {
+        return bench.calls() + calls <= Bench.MOST_CALLS;
     }
 
     private int from(int least, int most) {
@@ -48,7 +55,7 @@ public final class OracleTest {
     }
 
     private int some() {
-        return near(0, Math.max(0, bench.count(0) - 1));
+        return near(0, Math.max(0, oracle.count(0) - 1));
     }
 
     private void step() {
@@ -69,8 +76,8 @@ public final class OracleTest {
             int kind = random.nextInt(4) == 0 ? 1 : near(0, 1), n = near(0, 3), unit = 1 << from(0, 2);
             if (random.nextInt(30) == 0) unit = near(0, 5);
             same("machine(" + kind + ", " + n + ", " + unit + ")", bench.machine(kind, n, unit), oracle.machine(kind, n, unit));
-            m = bench.count(0) - 1;
-            n = bench.machineTold(m, 1);
+            m = oracle.count(0) - 1;
+            n = oracle.machineTold(m, 1);
             for (int place = 0; place < 16 && n >= 0; place++) if (random.nextInt(3) > 0) setOne(m, from(0, 3), from(0, 2), from(0, 2), from(-3, 3));
         } else if (pick == 3 || pick == 8) {
             same("series(" + m + ", " + o + ")", bench.series(m, o), oracle.series(m, o));
@@ -131,7 +138,7 @@ public final class OracleTest {
         for (int k = 0; k <= 8; k++)
             for (int what = 0; what <= 1; what++)
                 same("pulse(" + m + ", " + k + ", " + what + ")", bench.pulse(m, k, what), oracle.pulse(m, k, what));
-        for (int k = 0; k < bench.count(0); k++) same("like(" + m + ", " + k + ")", bench.like(m, k), oracle.like(m, k));
+        for (int k = 0; k < oracle.count(0); k++) same("like(" + m + ", " + k + ")", bench.like(m, k), oracle.like(m, k));
     }
 
     private void proof() {
@@ -174,7 +181,7 @@ public final class OracleTest {
 
     /** Joined machines with the greatest numbers there can be: nothing may wrap around. */
     private static void limits() {
-        for (long seed = 0; seed < 100 && wrong == 0; seed++) {
+        for (long seed = 0; seed < LIMIT_RUNS && wrong == 0; seed++) {
             OracleTest test = new OracleTest(seed);
             log.setLength(0);
             for (int m = 0; m < 3; m++) {
@@ -183,10 +190,29 @@ public final class OracleTest {
                 if (test.random.nextBoolean()) test.setOne(m, 1, 0, 0, test.random.nextBoolean() ? 1 : -1);
                 if (test.random.nextBoolean()) test.setOne(m, 3, 0, 0, 0);
             }
-            for (int times = 0; times < 200; times++) test.make();
-            for (int m = 0; m < test.bench.count(0); m++) test.askAll(m);
-            for (int times = 0; times < 20; times++) test.ask();
+            while (test.hasRoom(3 * STEP) && wrong == 0) test.make();
+            while (test.hasRoom(2 * STEP) && wrong == 0) test.ask();
+            while (test.hasRoom(STEP) && wrong == 0) test.askAll(test.oracle.count(0) - 1 - test.random.nextInt(3));
             if (wrong != 0) System.out.println("limits " + seed + ":\n" + log);
+        }
+    }
+
+    /** Every OWN of three numbers that can be set: roots of all sorts, and near to one another. */
+    private static void rings() {
+        for (int last = 0; last < 343 && wrong == 0; last++) {
+            OracleTest test = new OracleTest(last);
+            log.setLength(0);
+            for (int kind = 0; kind <= 1; kind++) {
+                for (int unit = 1; unit <= 4; unit *= 2) {
+                    int m = test.bench.machine(kind, 3, unit);
+                    same("machine(" + kind + ", 3, " + unit + ")", m, test.oracle.machine(kind, 3, unit));
+                    test.setOne(m, 0, 0, 1, 1);
+                    test.setOne(m, 0, 1, 2, 1);
+                    for (int k = 0, rest = last; k < 3; k++, rest /= 7) test.setOne(m, 0, 2, k, rest % 7 - 3);
+                    same("machineTold(" + m + ", 3)", test.bench.machineTold(m, 3), test.oracle.machineTold(m, 3));
+                }
+            }
+            if (wrong != 0) System.out.println("rings " + last + ":\n" + log);
         }
     }
 }

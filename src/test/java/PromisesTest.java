@@ -59,7 +59,7 @@ public final class PromisesTest {
     // ---- machines for the tests
 
     /** The TABLES in one row: a by rows, b, c, d. */
-    private static int made(SteerBench x, int kind, int n, int unit, int... v) {
+    private static int made(Bench x, int kind, int n, int unit, int... v) {
         int m = x.machine(kind, n, unit);
         int at = 0;
         for (int i = 0; i < n; i++) for (int k = 0; k < n; k++) x.set(m, 0, i, k, v[at++]);
@@ -69,7 +69,7 @@ public final class PromisesTest {
         return m;
     }
 
-    private static void dueTables(SteerBench x, int m, int n, int... v) {
+    private static void dueTables(Bench x, int m, int n, int... v) {
         int at = 0;
         due("states", x.machineTold(m, 1), n);
         for (int i = 0; i < n; i++)
@@ -79,8 +79,8 @@ public final class PromisesTest {
         due("d", x.table(m, 3, 0, 0), v[at]);
     }
 
-    private static SteerBench full() {
-        SteerBench x = new SteerBench();
+    private static Bench full() {
+        Bench x = new Bench();
         for (int i = 0; i < 12; i++) x.machine(0, 0, 1);
         return x;
     }
@@ -89,7 +89,7 @@ public final class PromisesTest {
 
     private static void aNewObject() {
         promise = 1;
-        SteerBench x = new SteerBench();
+        Bench x = new Bench();
         for (int what = 0; what <= 2; what++) due("count(" + what + ")", x.count(what), 0);
         due("row(0)", x.row(0), NO);
         due("trace(0)", x.trace(0), NONE);
@@ -100,14 +100,14 @@ public final class PromisesTest {
         x.write(0);
         x.act(0, 0, 0);
         x.sheet(0, 0, 1);
-        SteerBench y = new SteerBench();
+        Bench y = new Bench();
         for (int what = 0; what <= 2; what++) due("another's count(" + what + ")", y.count(what), 0);
         due("another's cell(0, 0, 0)", y.cell(0, 0, 0), NOTHING);
     }
 
     private static void machine() {
         promise = 2;
-        SteerBench x = new SteerBench();
+        Bench x = new Bench();
         int[][] bad = {{-1, 1, 1}, {2, 1, 1}, {3, 1, 1}, {0, -1, 1}, {0, 4, 1}, {0, 1, 0}, {0, 1, 3}, {0, 1, 5},
             {0, 1, 8}, {0, 1, -1}, {FAR, 1, 1}, {0, FAR, 1}, {0, DEEP, 1}, {0, 1, FAR}, {0, 1, DEEP}};
         for (int[] b : bad) due("machine(" + b[0] + ", " + b[1] + ", " + b[2] + ")", x.machine(b[0], b[1], b[2]), BAD);
@@ -133,7 +133,7 @@ public final class PromisesTest {
 
     private static void set() {
         promise = 3;
-        SteerBench x = new SteerBench();
+        Bench x = new Bench();
         x.machine(0, 2, 1);
         x.machine(1, 1, 1);
         x.machine(0, 0, 1);
@@ -166,7 +166,7 @@ public final class PromisesTest {
 
     private static void series() {
         promise = 4;
-        SteerBench x = new SteerBench();
+        Bench x = new Bench();
         made(x, 0, 1, 2, 1, 2, 3, 1);
         made(x, 0, 2, 2, -1, 2, 3, 0, 1, -2, 2, 1, 3);
         due("series(0, 1)", x.series(0, 1), 2);
@@ -185,7 +185,7 @@ public final class PromisesTest {
         due("kind of that", x.machineTold(6, 0), 2);
 
         joinRefused(true);
-        SteerBench y = new SteerBench();
+        Bench y = new Bench();
         made(y, 0, 1, 4, 0, 3, 1, 0);
         made(y, 0, 1, 4, 0, 2, 2, 0);
         made(y, 0, 1, 4, 0, -3, 1, 3);
@@ -209,7 +209,7 @@ public final class PromisesTest {
 
     /** What series() and side() refuse alike. */
     private static void joinRefused(boolean isSeries) {
-        SteerBench x = new SteerBench();
+        Bench x = new Bench();
         x.machine(0, 2, 1);
         x.machine(1, 2, 1);
         x.machine(0, 2, 2);
@@ -223,7 +223,7 @@ public final class PromisesTest {
         due("3 STATES", isSeries ? x.series(0, 3) : x.side(0, 3), 5);
         due("no STATES", isSeries ? x.series(4, 4) : x.side(4, 4), 6);
         due("states", x.machineTold(6, 1), 0);
-        SteerBench y = full();
+        Bench y = full();
         due("12 MACHINES", isSeries ? y.series(0, 0) : y.side(0, 0), FULL);
         due("12 MACHINES, BAD", isSeries ? y.series(0, 12) : y.side(0, 12), BAD);
         y.drop();
@@ -234,7 +234,7 @@ public final class PromisesTest {
 
     private static void side() {
         promise = 5;
-        SteerBench x = new SteerBench();
+        Bench x = new Bench();
         made(x, 0, 1, 2, 1, 2, 3, 1);
         made(x, 0, 2, 2, -1, 2, 3, 0, 1, -2, 2, 1, 3);
         due("side(0, 1)", x.side(0, 1), 2);
@@ -246,7 +246,7 @@ public final class PromisesTest {
         x.set(0, 1, 0, 0, 0);
         dueTables(x, 2, 3, 1, 0, 0, 0, -1, 2, 0, 3, 0, 2, 1, -2, 3, 2, 1, 4);
         joinRefused(false);
-        SteerBench y = new SteerBench();
+        Bench y = new Bench();
         made(y, 0, 0, 1, 3);
         y.side(0, 0);
         due("d 12", y.side(1, 1), 2);
@@ -260,7 +260,7 @@ public final class PromisesTest {
 
     private static void back() {
         promise = 6;
-        SteerBench x = new SteerBench();
+        Bench x = new Bench();
         made(x, 0, 2, 2, 1, 2, 3, -1, 1, -2, 2, 1, 0);
         due("back(0, 1)", x.back(0, 1), 1);
         due("kind", x.machineTold(1, 0), 2);
@@ -291,7 +291,7 @@ public final class PromisesTest {
         due("a", x.table(6, 0, 0, 0), -12);
         x.set(0, 0, 0, 0, 1);
         due("13 does not", x.back(0, 1), FULL);
-        SteerBench y = full();
+        Bench y = full();
         due("12 MACHINES", y.back(0, 1), FULL);
         y.set(0, 3, 0, 0, 1);
         due("12 MACHINES, d", y.back(0, 1), STATE);
@@ -299,7 +299,7 @@ public final class PromisesTest {
 
     private static void part() {
         promise = 7;
-        SteerBench x = new SteerBench();
+        Bench x = new Bench();
         made(x, 0, 3, 4, 1, 2, 3, -1, -2, -3, 3, 2, 1, 1, 2, 3, -1, -2, -3, 2);
         due("part(0, 5)", x.part(0, 5), 1);
         due("kind", x.machineTold(1, 0), 3);
@@ -321,14 +321,14 @@ public final class PromisesTest {
         due("a FLOW", x.part(6, 1), STATE);
         due("a FLOW, bits of others", x.part(6, 2), BAD);
         due("count(0)", x.count(0), 7);
-        SteerBench y = full();
+        Bench y = full();
         due("12 MACHINES", y.part(0, 0), FULL);
         due("12 MACHINES, bits", y.part(0, 1), BAD);
     }
 
     private static void drop() {
         promise = 8;
-        SteerBench x = new SteerBench();
+        Bench x = new Bench();
         due("none", x.drop(), STATE);
         x.machine(0, 1, 1);
         x.machine(0, 2, 2);
@@ -346,7 +346,7 @@ public final class PromisesTest {
 
     private static void machineTold() {
         promise = 9;
-        SteerBench x = new SteerBench();
+        Bench x = new Bench();
         made(x, 0, 3, 4, 1, 1, 0, 0, 1, 0, 0, 0, 2, 0, 1, 0, 1, 0, 0, 0);
         int[] told = {0, 3, 4, 1, 2, 2, 2, 0};
         for (int what = 0; what < 8; what++) due("machineTold(0, " + what + ")", x.machineTold(0, what), told[what]);
@@ -370,7 +370,7 @@ public final class PromisesTest {
         // b and a b free of one another in two of three places alone
         int[][] moves = {{0, 1}, {0, 2}, {1, 2}, {1, 0}, {2, 0}, {2, 1}};
         for (int[] move : moves) {
-            SteerBench y = new SteerBench();
+            Bench y = new Bench();
             y.machine(0, 3, 1);
             y.set(0, 1, move[0], 0, 2);
             y.set(0, 0, move[1], move[0], 3);
@@ -408,7 +408,7 @@ public final class PromisesTest {
 
     /** n, u, a by rows, whether steady. */
     private static void dueSteady(int kind, int[] told) {
-        SteerBench x = new SteerBench();
+        Bench x = new Bench();
         int n = told[0];
         x.machine(kind, n, told[1]);
         for (int i = 0; i < n * n; i++) x.set(0, 0, i / n, i % n, told[2 + i]);
@@ -417,7 +417,7 @@ public final class PromisesTest {
 
     private static void table() {
         promise = 10;
-        SteerBench x = new SteerBench();
+        Bench x = new Bench();
         made(x, 0, 2, 1, 1, 2, 3, -1, -2, -3, 2, 1, 3);
         dueTables(x, 0, 2, 1, 2, 3, -1, -2, -3, 2, 1, 3);
         due("of b k does not matter", x.table(0, 1, 1, 55), -3);
@@ -433,7 +433,7 @@ public final class PromisesTest {
 
     private static void own() {
         promise = 11;
-        SteerBench x = new SteerBench();
+        Bench x = new Bench();
         made(x, 0, 3, 2, 1, 0, 0, 0, 2, 0, 0, 0, 3, 1, 1, 1, 1, 1, 1, 1);
         long[] own = {-6, 11, -6, 1};
         // (z-1)(z-2)(z-3) + 2 ((z-2)(z-3) + (z-1)(z-3) + (z-1)(z-2))
@@ -460,7 +460,7 @@ public final class PromisesTest {
 
     private static void pulse() {
         promise = 12;
-        SteerBench x = new SteerBench();
+        Bench x = new Bench();
         made(x, 0, 1, 4, 3, 2, -1, 3);
         dueTwo("pulse 0", x.pulse(0, 0, 0), x.pulse(0, 0, 1), 3, 1);
         dueTwo("pulse 1", x.pulse(0, 1, 0), x.pulse(0, 1, 1), -2, 1);
@@ -476,7 +476,7 @@ public final class PromisesTest {
 
     private static void run() {
         promise = 13;
-        SteerBench x = new SteerBench();
+        Bench x = new Bench();
         made(x, 0, 1, 2, 1, 1, 2, 1);
         // v 1, -2, 3: x(1) = 1, x(2) = 1/2 - 2, y(2) = -3 + 3
         int inputs = 4 + 7 * 1 + 49 * 6;
@@ -489,7 +489,7 @@ public final class PromisesTest {
         // v -3 .. -3
         dueTwo("run 0 of 0", x.run(0, 0, 0, 0), x.run(0, 0, 0, 1), -3, 1);
         dueTwo("run 5 of 0", x.run(0, 5, 0, 0), x.run(0, 5, 0, 1), -117, 8);
-        SteerBench y = new SteerBench();
+        Bench y = new Bench();
         made(y, 0, 2, 2, 1, -1, 2, 3, 1, 2, 3, -1, 2);
         // v 3, -1, 2, 1: x 0 0, 3 6, -5/2 10, -17/4 33/2
         int four = 6 + 7 * 2 + 49 * 5 + 343 * 4;
@@ -514,7 +514,7 @@ public final class PromisesTest {
 
     private static void like() {
         promise = 14;
-        SteerBench x = new SteerBench();
+        Bench x = new Bench();
         made(x, 0, 1, 2, 1, 1, 2, 1);
         made(x, 0, 2, 4, 2, 0, 3, 1, 1, 3, 2, 0, 1);
         made(x, 0, 1, 1, 1, 1, 2, 1);
@@ -536,7 +536,7 @@ public final class PromisesTest {
         due("like(0, 7)", x.like(0, 7), BAD);
         due("like(-1, 0)", x.like(-1, 0), BAD);
         due("like(FAR, FAR)", x.like(FAR, FAR), BAD);
-        SteerBench y = new SteerBench();
+        Bench y = new Bench();
         y.machine(0, 0, 1);
         y.machine(0, 3, 4);
         due("nothing comes out of both", y.like(0, 1), 1);
@@ -547,7 +547,7 @@ public final class PromisesTest {
 
     private static void gain() {
         promise = 15;
-        SteerBench x = new SteerBench();
+        Bench x = new Bench();
         made(x, 0, 1, 2, 3, -2, 0, 0);
         // 3 + 4 k = -p0
         dueTwo("one STATE", x.gain(0, 5, 999, -999, 0, 0), x.gain(0, 5, 999, -999, 0, 1), -2, 1);
@@ -567,7 +567,7 @@ public final class PromisesTest {
         dueTwo("k(0)", x.gain(3, 0, 0, 0, 0, 0), x.gain(3, 0, 0, 0, 0, 1), 1, 2);
         dueTwo("k(1)", x.gain(3, 0, 0, 0, 1, 0), x.gain(3, 0, 0, 0, 1, 1), -8, 1);
         dueTwo("k(2)", x.gain(3, 0, 0, 0, 2, 0), x.gain(3, 0, 0, 0, 2, 1), 27, 2);
-        SteerBench y = new SteerBench();
+        Bench y = new Bench();
         made(y, 0, 2, 2, 1, 2, 3, -1, 2, 1, 0, 0, 0);
         // less 4 k(0) 4 k(1) / 2 k(0) 2 k(1): the sum of roots 5, their product 3
         dueTwo("k(0)", y.gain(0, 3, -5, 0, 0, 0), y.gain(0, 3, -5, 0, 0, 1), -35, 12);
@@ -588,7 +588,7 @@ public final class PromisesTest {
 
     private static void soonest() {
         promise = 16;
-        SteerBench x = new SteerBench();
+        Bench x = new Bench();
         made(x, 0, 3, 2, 0, 1, 0, 0, 0, 1, 1, 2, 3, 0, 0, 1, 0, 0, 0, 0);
         int[][] begun = {{0, 0, 0, 0}, {9, 0, 0, 1}, {-9, 9, 0, 2}, {0, 1, 0, 2}, {1, 2, 3, 3}, {0, 0, -9, 3}};
         for (int[] b : begun) due("soonest " + b[0] + b[1] + b[2], x.soonest(0, b[0], b[1], b[2]), b[3]);
@@ -612,7 +612,7 @@ public final class PromisesTest {
 
     private static void energy() {
         promise = 17;
-        SteerBench x = new SteerBench();
+        Bench x = new Bench();
         made(x, 0, 1, 2, 1, 0, 0, 0);
         dueTwo("P", x.energy(0, 0, 0, 0), x.energy(0, 0, 0, 1), 4, 3);
         made(x, 0, 1, 1, 3, 0, 0, 0);
@@ -652,7 +652,7 @@ public final class PromisesTest {
     }
 
     private static void dueEnergy(int kind, int unit, int[] a, long[] p) {
-        SteerBench x = new SteerBench();
+        Bench x = new Bench();
         x.machine(kind, 2, unit);
         for (int i = 0; i < 4; i++) x.set(0, 0, i / 2, i % 2, a[i]);
         for (int i = 0; i < 2; i++)
@@ -660,8 +660,8 @@ public final class PromisesTest {
                 dueTwo("P(" + i + "," + k + ")", x.energy(0, i, k, 0), x.energy(0, i, k, 1), p[2 * (i + k)], p[2 * (i + k) + 1]);
     }
 
-    private static SteerBench written() {
-        SteerBench x = new SteerBench();
+    private static Bench written() {
+        Bench x = new Bench();
         made(x, 1, 2, 1, -1, 0, 1, -1, 0, 0, 0, 0, 0);
         made(x, 0, 1, 2, 1, 0, 0, 0);
         x.machine(0, 0, 4);
@@ -673,7 +673,7 @@ public final class PromisesTest {
 
     private static void write() {
         promise = 18;
-        SteerBench x = written();
+        Bench x = written();
         due("write(0)", x.write(0), 11);
         for (int i = 0; i < 11; i++) due("row(" + i + ")", x.row(i), PROOF[i]);
         due("no ENERGY", x.write(3), STATE);
@@ -699,7 +699,7 @@ public final class PromisesTest {
 
     private static void row() {
         promise = 19;
-        SteerBench x = written();
+        Bench x = written();
         due("row(0)", x.row(0), NO);
         x.write(0);
         due("row(-1)", x.row(-1), NO);
@@ -712,7 +712,7 @@ public final class PromisesTest {
 
     private static void forge() {
         promise = 20;
-        SteerBench x = written();
+        Bench x = written();
         due("without ROWS", x.forge(0, 1), BAD);
         x.write(1);
         due("forge(0, most)", x.forge(0, 1000000000L), 1);
@@ -731,7 +731,7 @@ public final class PromisesTest {
 
     private static void check() {
         promise = 21;
-        SteerBench x = written();
+        Bench x = written();
         due("without ROWS", x.check(0), 0);
         due("without ROWS, no ENERGY", x.check(3), 0);
         due("none such", x.check(4), BAD);
@@ -782,8 +782,8 @@ public final class PromisesTest {
         due("P is 1 0 1", x.check(11), NONE);
     }
 
-    private static SteerBench actors() {
-        SteerBench x = new SteerBench();
+    private static Bench actors() {
+        Bench x = new Bench();
         x.machine(0, 3, 2);
         x.machine(1, 2, 4);
         x.machine(0, 1, 1);
@@ -794,7 +794,7 @@ public final class PromisesTest {
 
     private static void act() {
         promise = 22;
-        SteerBench x = actors();
+        Bench x = actors();
         due("STEPS goes", x.act(0, 0, 5), 13);
         due("STEPS leads", x.act(0, 1, 5), 13);
         due("STEPS shows", x.act(0, 2, 5), 13 ^ 17);
@@ -820,7 +820,7 @@ public final class PromisesTest {
         due("machine FAR", x.act(FAR, 2, 5), 0);
     }
 
-    private static void dueTrace(SteerBench x, int m, int act, int... bodies) {
+    private static void dueTrace(Bench x, int m, int act, int... bodies) {
         x.act(m, act, 7);
         due("count(2)", x.count(2), bodies.length);
         for (int i = 0; i < bodies.length; i++) due("trace(" + i + ") of " + m + " " + act, x.trace(i), bodies[i]);
@@ -829,7 +829,7 @@ public final class PromisesTest {
 
     private static void trace() {
         promise = 23;
-        SteerBench x = actors();
+        Bench x = actors();
         dueTrace(x, 4, 2, 41, 30, 11, 40, 10, 31, 12, 30, 11, 40, 10, 40, 10);
         dueTrace(x, 4, 1, 30, 11, 40, 10);
         dueTrace(x, 4, 0, 40, 10);
@@ -856,7 +856,7 @@ public final class PromisesTest {
 
     private static void count() {
         promise = 24;
-        SteerBench x = actors();
+        Bench x = actors();
         due("count(0)", x.count(0), 5);
         due("count(1)", x.count(1), 0);
         x.write(4);
@@ -873,7 +873,7 @@ public final class PromisesTest {
 
     private static void sheet() {
         promise = 25;
-        SteerBench x = new SteerBench();
+        Bench x = new Bench();
         for (int sort = 0; sort <= 2; sort++) {
             due("40 items", x.sheet(sort, sort, 40), 1);
             due("the last", x.cell(sort, 39, 1), 1);
@@ -905,7 +905,7 @@ public final class PromisesTest {
 
     private static void cell() {
         promise = 26;
-        SteerBench x = new SteerBench();
+        Bench x = new Bench();
         x.machine(0, 1, 1);
         due("sheet 4", x.cell(4, 0, 0), BAD);
         due("sheet -1", x.cell(-1, 0, 0), BAD);
@@ -932,7 +932,7 @@ public final class PromisesTest {
 
     private static void lay() {
         promise = 27;
-        SteerBench x = new SteerBench();
+        Bench x = new Bench();
         x.machine(0, 2, 1);
         x.machine(1, 1, 1);
         x.machine(0, 0, 1);
@@ -970,7 +970,7 @@ public final class PromisesTest {
         for (int[] b : bad) due("lay", x.lay(b[0], b[1], b[2], b[3]), BAD);
     }
 
-    private static void dueItems(SteerBench x, int sheet, int... items) {
+    private static void dueItems(Bench x, int sheet, int... items) {
         for (int i = 0; i < items.length; i++) {
             due("lay", x.lay(0, sheet, 1, i), 1);
             due("item " + i + " of " + sheet, x.table(0, 0, 0, 0), items[i]);
@@ -980,7 +980,7 @@ public final class PromisesTest {
 
     private static void copy() {
         promise = 28;
-        SteerBench x = new SteerBench();
+        Bench x = new Bench();
         x.machine(0, 1, 1);
         x.sheet(0, 1, 5);
         x.sheet(1, 1, 3);
@@ -1010,7 +1010,7 @@ public final class PromisesTest {
 
     private static void taken() {
         promise = 29;
-        SteerBench x = actors();
+        Bench x = actors();
         int[][] due = {{3, OTHER, OTHER, OTHER}, {2, 2, OTHER, OTHER}, {1, OTHER, OTHER, OTHER}, {2, OTHER, 2, OTHER},
             {1, OTHER, 1, 1}};
         for (int m = 0; m < 5; m++)
