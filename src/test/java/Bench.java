@@ -14,6 +14,11 @@ final class Bench {
         return calls;
     }
 
+    /** For what is no call of the document's face. */
+    SteerBench itself() {
+        return bench;
+    }
+
     /** The text of the call that was made last, of any bench. */
     static String lastCall() {
         StringBuilder text = new StringBuilder(lastName).append('(');

@@ -53,7 +53,7 @@ final class Sentences {
     private static void fault(String what) {
         wrong++;
         if (wrong > 100) return;
-        if (!isNamed) System.out.println("promise " + promise + " says: " + sentence);
+        if (!isNamed) System.out.println((promise == 0 ? "the document" : "promise " + promise) + " says: " + sentence);
         isNamed = true;
         System.out.println("  " + what);
     }

@@ -9,6 +9,7 @@ public final class SentencesTest {
 
     public static void main(String[] args) throws Exception {
         Sentences.begin();
+        WholeSentences.all();
         MakingSentences.all();
         TellingSentences.all();
         ProofSentences.all();
