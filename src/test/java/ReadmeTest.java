@@ -15,7 +15,7 @@ public final class ReadmeTest {
     private static final Pattern NEW = Pattern.compile("SteerBench bench = new SteerBench\\(\\);");
     private static final Pattern CALL = Pattern.compile("(?:(?:int|long) (\\w+) = )?bench\\.(\\w+)\\(([^)]*)\\); +// (-?\\d+|[A-Z]+)(?:: .+)?");
     private static final Pattern ROW = Pattern.compile("\n\\| (?:`([A-Z]+)` \\((-?\\d+)\\)|(-?\\d+)[^|]*) \\| ([^|]*) \\|");
-    private static final int RUNS = 1000;
+    private static final int RUNS = 2000;
     private static int asked = 0;
     private static int wrong = 0;
 
@@ -123,13 +123,13 @@ public final class ReadmeTest {
             hold(number + " is told of " + told.get(number) + ", seen of " + seen.get(number), told.get(number).equals(seen.get(number)));
     }
 
-    /** Of drawn calls; where a refusal's number may be an answer like any other it is not looked for. */
+    /** Of drawn calls, at most two for each of them; where a refusal's number may be an answer like any other it is not looked for. */
     private static Map<Long, Set<String>> refusalsSeen(Set<Long> numbers) throws Exception {
         Map<Long, Set<String>> seen = new HashMap<>();
         for (int run = 0; run < RUNS; run++) {
             AnyCalls calls = new AnyCalls(run);
             SteerBench x = new SteerBench();
-            for (int i = 0; i < Bench.MOST_CALLS; i++) {
+            for (int i = 0; i < Bench.MOST_CALLS / 2; i++) {
                 calls.next();
                 long answer = calls.answerOf(x);
                 if (!numbers.contains(answer) || isPlainAnswer(calls, answer)) continue;
